@@ -1221,7 +1221,7 @@ public final class BakeTurns {
         }
 
         void restoreTo(State state) {
-            if (count > 0) {
+            if (count > 0 && state != null) {
                 count--;
                 state.copyFrom(slotAt(count));
             }

@@ -6,9 +6,11 @@ public final class CommandsTest {
         promise25RunsEveryCommand();
         promise25StopsAtTheFirstThatWouldThrow();
         promise25Faults();
+        promise25OneTextAfterAnother();
         promise25TextsWithoutFault();
         promise25SavesOneState();
         promise26Undo();
+        promise26UndoBringsAllBack();
         promise26UndoKeepsTheText();
         promise27Digest();
         Check.end();
@@ -62,7 +64,7 @@ public final class CommandsTest {
 
     private static void promise25StopsAtTheFirstThatWouldThrow() {
         String good = "house;";
-        String[] bad = {"kind 49 300 3 0 40;", "kind 200 300 3 0 999;", "dough 0 0 1;", "dough 9 0 1;", "bring 1 1;",
+        String[] bad = {"kind 49 300 3 0 40;", "kind 200 300 3 31 40;", "kind 200 300 21 0 40;", "kind 200 199 3 0 40;", "kind 200 300 3 0 999;", "dough 0 0 1;", "dough 9 0 1;", "bring 1 1;",
             "bring 0 0;", "bring 0 100;", "stoke 0 0;", "stoke 0 17;", "stoke 1 1;", "pass 0;", "pass 101;", "swap 0 1;",
             "swap 0 0;"};
         for (String command : bad) {
@@ -140,9 +142,31 @@ public final class CommandsTest {
         fault("passpass 1;", 0);
         fault("pas s 1;", 0);
         fault("bring 0;", 7);
+        fault("housez;", 0);
+        fault("azhouse;", 0);
+        fault("mouse;", 0);
+        fault("pass;house 1;", 4);
+        fault("x;house 1;", 0);
+        fault("pass house;x", 5);
         fault("stoke 0;", 7);
         fault("house;".repeat(24) + "house", 149);
         fault(" ".repeat(149) + "x", 149);
+    }
+
+    /** Nothing of an earlier text is left. */
+    private static void promise25OneTextAfterAnother() {
+        BakeTurns x = new BakeTurns();
+        Check.same("a fault", -10, Bakery.run(x, "hause;house;"));
+        Check.same("no fault any more", 1, Bakery.run(x, "house;"));
+        Check.same("shorter", -15, Bakery.run(x, "house"));
+        Check.same("shorter", -10, Bakery.run(x, "hous"));
+        Check.same("empty", 0, Bakery.run(x, ""));
+        Check.same("completed", 1, Bakery.run(x, "house;"));
+        x.type(' ');
+        Check.same("run again", 1, x.runCommands());
+        x.type('x');
+        Check.same("faulty at its end", -17, x.runCommands());
+        Check.same("households", 3, x.whole(1));
     }
 
     private static void promise25TextsWithoutFault() {
@@ -199,6 +223,46 @@ public final class CommandsTest {
         Check.same("all as it was", before, hashOf(y, 0));
         Bakery.doughIs("in the oven again", y, 0, 0, 0, 3, 1, 1, 0, 0, -1, 7, 0);
         Bakery.lineIs("line again", y, 1, 2);
+    }
+
+    /** A state in which every value has been something is changed in all of them by one run. */
+    private static void promise26UndoBringsAllBack() {
+        BakeTurns x = Bakery.heated(300);
+        x.addKind(250, 301, 5, 0, 40);
+        x.addKind(300, 400, 20, 0, 1);
+        x.addKind(250, 340, 20, 0, 40);
+        x.addDough(0, 1, 2);
+        x.addDough(1, 3, 3);
+        x.addDough(1, 2, 4);
+        x.addDough(1, 0, 1);
+        x.pass(2);
+        x.stoke(1, 3);
+        x.pass(3);
+        Check.same("burnt", 2, x.dough(0, 9));
+        Check.same("baked and scorched", 3, x.place(2, 3));
+        Check.same("spoiled", 3, x.dough(2, 4));
+        Check.same("waits", 5, x.dough(3, 5));
+        long before = hashOf(x, 4);
+        Check.same("digest", before, x.digest());
+        x.addHouse();
+        Check.same("undo", 3, x.undo());
+        Check.same("run", 7, Bakery.run(x, "house;kind 50 400 1 0 40;bring 1 9;dough 2 4 4;pass 100;stoke 2 9;settle;"));
+        Check.isTrue("changed", before != hashOf(x, 4));
+        Check.same("undo", 3, x.undo());
+        Bakery.text(x, "");
+        Check.same("all as it was", before, hashOf(x, 4));
+        x.clearDoughs();
+        x.addDough(0, 1, 2);
+        x.addDough(0, 1, 2);
+        x.undo();
+        x.undo();
+        Check.same("undo", 1, x.undo());
+        Check.same("all as it was", before, hashOf(x, 4));
+        x.pass(100);
+        x.pass(100);
+        x.undo();
+        Check.same("undo", 1, x.undo());
+        Check.same("all as it was", before, hashOf(x, 4));
     }
 
     private static void promise26UndoKeepsTheText() {

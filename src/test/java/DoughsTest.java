@@ -9,6 +9,8 @@ public final class DoughsTest {
         promise4AddDoughRefuses();
         promise5ClearDoughs();
         promise5ClearDoughsClosesUpOvenAndLine();
+        promise5ClearDoughsKeepsTheFirst();
+        promise5ClearDoughsLeavesNothingBehind();
         promise6Swap();
         promise6SwapRefuses();
         Check.end();
@@ -163,6 +165,45 @@ public final class DoughsTest {
         Check.same("clear it too", 2, x.clearDoughs());
         Check.same("its number is given anew", 2, x.addDough(0, 0, 1));
         Bakery.doughIs("as new", x, 2, 0, 0, 1, 0, 0, 0, -1, 0, 0, 0);
+    }
+
+    private static void promise5ClearDoughsKeepsTheFirst() {
+        BakeTurns x = new BakeTurns();
+        x.addKind(50, 400, 1, 0, 40);
+        x.addKind(50, 400, 1, 0, 1);
+        x.addHouse();
+        x.addDough(0, 0, 3);
+        x.addDough(0, 1, 2);
+        x.pass(2);
+        Check.same("one is left", 1, x.clearDoughs());
+        Bakery.doughIs("the first", x, 0, 0, 0, 3, 2, 0, 4, -1, 0, 0, 0);
+        Check.same("nothing to clear now", 1, x.clearDoughs());
+    }
+
+    /** What was burnt, baked and scorched does not come back with a number or a place that is used again. */
+    private static void promise5ClearDoughsLeavesNothingBehind() {
+        BakeTurns x = Bakery.heated(300);
+        x.addKind(250, 301, 5, 0, 40);
+        x.addKind(50, 400, 3, 0, 40);
+        x.addDough(0, 1, 2);
+        x.addDough(1, 0, 1);
+        x.pass(1);
+        x.stoke(0, 2);
+        x.pass(3);
+        Check.same("339, 299 in band 2", 0x100, x.dough(1, 8));
+        Check.same("done", 1, x.pass(1));
+        Check.same("scorched at 343, 341, 339, 333", 2, x.dough(0, 9));
+        Check.same("the one in the oven is left", 1, x.clearDoughs());
+        Bakery.doughIs("with its own values", x, 0, 1, 0, 1, 4, 1, 5, 3, -1, 0x100, 0);
+        Check.same("it alone is done", 1, x.pass(1));
+        x.undo();
+        Check.same("back to where both are there", 2, x.undo());
+        Check.same("it alone is done", 1, x.pass(1));
+        Check.same("none left", 0, x.clearDoughs());
+        Check.same("number 0 again", 0, x.addDough(1, 2, 4));
+        Bakery.doughIs("as new", x, 0, 1, 2, 4, 0, 0, 0, -1, 0, 0, 0);
+        x.pass(1);
+        Bakery.placeIs("as new", x, 0, 321 - 8, 0, 1, 0);
     }
 
     private static void promise6Swap() {

@@ -95,11 +95,16 @@ public final class FaceTest {
         return s.toString();
     }
 
-    private static void membersArePrivate(Class<?> c) {
-        Set<String> publicNames = new TreeSet<>();
+    private static Set<String> publicNames() {
+        Set<String> names = new TreeSet<>();
         for (String line : FACE) {
-            publicNames.add(line.substring(line.indexOf(' ') + 1, line.indexOf('(')));
+            names.add(line.substring(line.indexOf(' ') + 1, line.indexOf('(')));
         }
+        return names;
+    }
+
+    private static void membersArePrivate(Class<?> c) {
+        Set<String> publicNames = publicNames();
         for (Method m : c.getDeclaredMethods()) {
             boolean open = Modifier.isPublic(m.getModifiers());
             Check.isTrue(m + " is private", open || Modifier.isPrivate(m.getModifiers()));
@@ -128,6 +133,8 @@ public final class FaceTest {
             Check.isTrue(c + " has some twenty fields", fields <= 20);
             for (Method m : c.getDeclaredMethods()) {
                 Check.isTrue(m + " has at most seven parameters", m.getParameterCount() <= 7);
+                Check.isTrue(m + " bears the name of a public one",
+                    c == BakeTurns.class || !publicNames().contains(m.getName()));
             }
         }
     }

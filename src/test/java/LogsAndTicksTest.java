@@ -16,6 +16,8 @@ public final class LogsAndTicksTest {
         promise10Reasons();
         promise10FillsTheLowestFittingPlaces();
         promise10BakesAndScorches();
+        promise10CountsFreePlacesOfEachHeat();
+        promise10BurnsAtTheThirdScorching();
         promise10TakesOut();
         promise10TakesOutWholeDoughs();
         promise10Refuses();
@@ -91,6 +93,7 @@ public final class LogsAndTicksTest {
         Check.same("balance -20", 300, x.stoke(0, 4));
         Check.same("balance -20", -20, x.house(0, 0));
         Check.badState("balance -21 by one", x, () -> x.stoke(0, 1));
+        Check.badState("300 and 5 logs", x, () -> x.stoke(1, 5));
         Check.same("to the brim", 400, x.stoke(1, 4));
         x.pass(1);
         Check.badState("399 and 25", x, () -> x.stoke(1, 1));
@@ -175,6 +178,12 @@ public final class LogsAndTicksTest {
         Check.same("but the use is gone", 0, x.whole(8));
         Check.same("and of the household", 0, x.house(0, 1));
         Check.same("balance as it was", 95, x.house(0, 0));
+        BakeTurns y = Bakery.heated(300);
+        y.addDough(1, 0, 1);
+        y.pass(1);
+        Check.same("one that was used once owes all", 12, y.owes(1));
+        Check.same("settle", 12, y.settle());
+        Check.same("balance", 87, y.house(1, 0));
     }
 
     private static void promise9SettleGoesBelowTheLeastBalance() {
@@ -372,6 +381,46 @@ public final class LogsAndTicksTest {
         z.pass(1);
         Bakery.placeIs("219 is the greatest heat of its kind", z, 0, 213, 0, 2, 0);
         Bakery.placeIs("219 is less than the greatest heat", z, 1, 213, 1, 1, 0);
+    }
+
+    /** One place too few, each time. */
+    private static void promise10CountsFreePlacesOfEachHeat() {
+        BakeTurns x = Bakery.heated(300);
+        x.addKind(281, 400, 20, 0, 40);
+        x.addKind(50, 280, 20, 0, 40);
+        x.addDough(0, 1, 1);
+        x.addDough(0, 1, 4);
+        x.pass(2);
+        Check.same("three in band 0", 4, x.dough(1, 5));
+        x.addDough(0, 2, 1);
+        x.pass(1);
+        Check.same("292, 272: the first of band 1", 0x10, x.dough(2, 8));
+        x.addDough(0, 1, 3);
+        x.pass(1);
+        Check.same("three in band 0", 0xE, x.dough(3, 8));
+        BakeTurns y = Bakery.heated(375);
+        y.addKind(330, 360, 20, 0, 40);
+        y.addKind(50, 400, 20, 0, 40);
+        y.addKind(100, 340, 20, 0, 40);
+        y.addDough(0, 1, 1);
+        y.addDough(0, 1, 4);
+        y.addDough(0, 1, 3);
+        y.pass(2);
+        Check.same("369, 349, 329: eight are warm, three fit", 5, y.dough(1, 5));
+        Check.same("as many fit as it has loaves", 0xE0, y.dough(2, 8));
+    }
+
+    private static void promise10BurnsAtTheThirdScorching() {
+        for (int scorched = 2; scorched <= 4; scorched++) {
+            BakeTurns x = Bakery.heated(300);
+            x.addKind(200, 301, scorched + 1, 0, 40);
+            x.addDough(0, 1, 2);
+            x.pass(1);
+            x.stoke(0, 4);
+            Check.same("done", 1, x.pass(scorched));
+            Check.same("burnt after " + scorched, scorched < 3 ? 0 : 2, x.dough(0, 9));
+            Check.same("burnt after " + scorched, scorched < 3 ? 0 : 2, x.house(0, 6));
+        }
     }
 
     private static void promise10TakesOut() {
