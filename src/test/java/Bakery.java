@@ -1,22 +1,28 @@
-/** Objects that several tests begin with, and short ways to type texts and to read doughs and places. */
+/** Objects that several tests begin with, and short ways to type texts and to compare many values. */
 final class Bakery {
     private Bakery() {
     }
 
     /** One kind (200 to 300 degrees, 3 ticks to bake, ripe at once, keeps 40 ticks), two households with 99 logs. */
     static BakeTurns plain() {
-        BakeTurns x = new BakeTurns();
-        x.addKind(200, 300, 3, 0, 40);
-        x.addHouse();
-        x.addHouse();
-        x.bring(0, 99);
-        x.bring(1, 99);
-        return x;
+        return with(0, new int[] {200, 300, 3, 0, 40});
     }
 
     /** As plain(), with the oven at a heat that logs can make. */
     static BakeTurns heated(int heat) {
-        BakeTurns x = plain();
+        return with(heat, new int[] {200, 300, 3, 0, 40});
+    }
+
+    /** These kinds, two households with 99 logs each, of which the first stokes the oven to this heat. */
+    static BakeTurns with(int heat, int[]... kinds) {
+        BakeTurns x = new BakeTurns();
+        for (int[] v : kinds) {
+            x.addKind(v[0], v[1], v[2], v[3], v[4]);
+        }
+        x.addHouse();
+        x.addHouse();
+        x.bring(0, 99);
+        x.bring(1, 99);
         stokeTo(x, 0, heat);
         return x;
     }
@@ -25,6 +31,24 @@ final class Bakery {
         int logs = (heat - x.whole(3)) / 25;
         if (logs > 0) {
             x.stoke(house, logs);
+        }
+    }
+
+    static void doughs(BakeTurns x, int number, int house, int kind, int loaves) {
+        for (int i = 0; i < number; i++) {
+            x.addDough(house, kind, loaves);
+        }
+    }
+
+    /** Lets a new object, whose command text is empty, come to this tick, and empties the text again. */
+    static void toTick(BakeTurns x, int tick) {
+        text(x, "pass 100;".repeat(16));
+        while (tick - x.whole(4) >= 1600) {
+            x.runCommands();
+        }
+        x.clearCommands();
+        while (x.whole(4) < tick) {
+            x.pass(Math.min(100, tick - x.whole(4)));
         }
     }
 
@@ -39,6 +63,8 @@ final class Bakery {
         text(x, text);
         return x.runCommands();
     }
+
+    // ---- many values at once
 
     /** The values 0 to 9 of a dough must be these. */
     static void doughIs(String what, BakeTurns x, int dough, int... due) {
@@ -71,5 +97,74 @@ final class Bakery {
         }
         Check.same(what + ": line behind its end", BakeTurns.NONE, x.line(due.length));
         Check.same(what + ": whole(5)", due.length, x.whole(5));
+    }
+
+    /** One value of the doughs from 0 on: 3 age, 4 state, 5 reason, 6 tick of loading, 8 set of places. */
+    static void doughsAre(String what, BakeTurns x, int value, int... due) {
+        for (int d = 0; d < due.length; d++) {
+            Check.same(what + ": dough(" + d + ", " + value + ")", due[d], x.dough(d, value));
+        }
+    }
+
+    // ---- the hash of the document, and what is saved
+
+    /** The hash as the document tells it, of the public values. */
+    static long hashOf(BakeTurns x, int states) {
+        long h = 31 * 43350L + states;
+        for (int i = 0; i <= 14; i++) {
+            h = 31 * h + x.whole(i);
+        }
+        for (int k = 0; k < x.whole(0); k++) {
+            for (int i = 0; i <= 4; i++) {
+                h = 31 * h + x.kind(k, i);
+            }
+        }
+        for (int n = 0; n < x.whole(1); n++) {
+            for (int i = 0; i <= 6; i++) {
+                h = 31 * h + x.house(n, i);
+            }
+            h = 31 * h + x.owes(n);
+        }
+        for (int d = 0; d < x.whole(2); d++) {
+            for (int i = 0; i <= 9; i++) {
+                h = 31 * h + x.dough(d, i);
+            }
+            h = 31 * h + x.reason(d);
+        }
+        for (int p = 0; p <= 11; p++) {
+            for (int i = 0; i <= 3; i++) {
+                h = 31 * h + x.place(p, i);
+            }
+        }
+        for (int i = 0; i < x.whole(5); i++) {
+            h = 31 * h + x.line(i);
+        }
+        return 31 * h + x.heatIn(10);
+    }
+
+    /** The number of states on the undo stack, as the hash shows it; -1 if it shows none of 0 to 4. */
+    static int states(BakeTurns x) {
+        for (int n = 0; n <= 4; n++) {
+            if (hashOf(x, n) == x.digest()) {
+                return n;
+            }
+        }
+        return -1;
+    }
+
+    /** The call saves one state, the one from before it, which undo() brings back. */
+    static void undoable(String what, BakeTurns x, Runnable call) {
+        long before = hashOf(x, 0);
+        int due = Math.min(states(x) + 1, 4);
+        call.run();
+        Check.same(what + ": states on the stack", due, states(x));
+        Check.same(what + ": states after undo", due - 1, x.undo());
+        Check.same(what + ": all as before", before, hashOf(x, 0));
+    }
+
+    static void savesNothing(String what, BakeTurns x, Runnable call) {
+        int before = states(x);
+        call.run();
+        Check.same(what + ": states on the stack", before, states(x));
     }
 }

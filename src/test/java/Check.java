@@ -2,6 +2,7 @@
 final class Check {
     private static int passed = 0;
     private static int failed = 0;
+    private static String within = "";
 
     private Check() {
     }
@@ -12,6 +13,20 @@ final class Check {
 
     static void isTrue(String what, boolean holds) {
         note(holds, what);
+    }
+
+    /** Runs a test of its own: it must check something, throw nothing, and fail nothing. */
+    static void within(String name, Runnable test) {
+        int passedBefore = passed;
+        int failedBefore = failed;
+        within = name + "\n    ";
+        try {
+            test.run();
+            isTrue("nothing is checked", passed + failed > passedBefore + failedBefore);
+        } catch (RuntimeException e) {
+            isTrue("threw " + e, false);
+        }
+        within = "";
     }
 
     /** The call throws just this exception and leaves the digest as it was. */
@@ -45,7 +60,7 @@ final class Check {
         } else {
             failed++;
             if (failed <= 50) {
-                System.out.println(what);
+                System.out.println(within + what);
             }
         }
     }

@@ -211,16 +211,16 @@ public final class CommandsTest {
         y.addDough(1, 1, 2);
         y.addDough(1, 1, 4);
         y.pass(1);
-        long before = hashOf(y, 0);
+        long before = Bakery.hashOf(y, 0);
         y.pass(9);
         y.clearDoughs();
         y.settle();
         y.bring(0, 3);
-        Check.isTrue("changed", before != hashOf(y, 0));
+        Check.isTrue("changed", before != Bakery.hashOf(y, 0));
         for (int i = 3; i >= 0; i--) {
             Check.same("undo", i, y.undo());
         }
-        Check.same("all as it was", before, hashOf(y, 0));
+        Check.same("all as it was", before, Bakery.hashOf(y, 0));
         Bakery.doughIs("in the oven again", y, 0, 0, 0, 3, 1, 1, 0, 0, -1, 7, 0);
         Bakery.lineIs("line again", y, 1, 2);
     }
@@ -242,27 +242,27 @@ public final class CommandsTest {
         Check.same("baked and scorched", 3, x.place(2, 3));
         Check.same("spoiled", 3, x.dough(2, 4));
         Check.same("waits", 5, x.dough(3, 5));
-        long before = hashOf(x, 4);
+        long before = Bakery.hashOf(x, 4);
         Check.same("digest", before, x.digest());
         x.addHouse();
         Check.same("undo", 3, x.undo());
         Check.same("run", 7, Bakery.run(x, "house;kind 50 400 1 0 40;bring 1 9;dough 2 4 4;pass 100;stoke 2 9;settle;"));
-        Check.isTrue("changed", before != hashOf(x, 4));
+        Check.isTrue("changed", before != Bakery.hashOf(x, 4));
         Check.same("undo", 3, x.undo());
         Bakery.text(x, "");
-        Check.same("all as it was", before, hashOf(x, 4));
+        Check.same("all as it was", before, Bakery.hashOf(x, 4));
         x.clearDoughs();
         x.addDough(0, 1, 2);
         x.addDough(0, 1, 2);
         x.undo();
         x.undo();
         Check.same("undo", 1, x.undo());
-        Check.same("all as it was", before, hashOf(x, 4));
+        Check.same("all as it was", before, Bakery.hashOf(x, 4));
         x.pass(100);
         x.pass(100);
         x.undo();
         Check.same("undo", 1, x.undo());
-        Check.same("all as it was", before, hashOf(x, 4));
+        Check.same("all as it was", before, Bakery.hashOf(x, 4));
     }
 
     private static void promise26UndoKeepsTheText() {
@@ -279,59 +279,25 @@ public final class CommandsTest {
         Check.same("text stays cleared", 0, x.whole(14));
     }
 
-    /** The hash as the document tells it, of the public values. */
-    private static long hashOf(BakeTurns x, int states) {
-        long h = 31 * 43350L + states;
-        for (int i = 0; i <= 14; i++) {
-            h = 31 * h + x.whole(i);
-        }
-        for (int k = 0; k < x.whole(0); k++) {
-            for (int i = 0; i <= 4; i++) {
-                h = 31 * h + x.kind(k, i);
-            }
-        }
-        for (int n = 0; n < x.whole(1); n++) {
-            for (int i = 0; i <= 6; i++) {
-                h = 31 * h + x.house(n, i);
-            }
-            h = 31 * h + x.owes(n);
-        }
-        for (int d = 0; d < x.whole(2); d++) {
-            for (int i = 0; i <= 9; i++) {
-                h = 31 * h + x.dough(d, i);
-            }
-            h = 31 * h + x.reason(d);
-        }
-        for (int p = 0; p <= 11; p++) {
-            for (int i = 0; i <= 3; i++) {
-                h = 31 * h + x.place(p, i);
-            }
-        }
-        for (int i = 0; i < x.whole(5); i++) {
-            h = 31 * h + x.line(i);
-        }
-        return 31 * h + x.heatIn(10);
-    }
-
     private static void promise27Digest() {
         BakeTurns x = new BakeTurns();
-        Check.same("new", hashOf(x, 0), x.digest());
+        Check.same("new", Bakery.hashOf(x, 0), x.digest());
         x.addKind(200, 300, 3, 1, 9);
-        Check.same("a kind", hashOf(x, 1), x.digest());
+        Check.same("a kind", Bakery.hashOf(x, 1), x.digest());
         x.addHouse();
         x.addHouse();
         x.stoke(0, 12);
-        Check.same("stoked", hashOf(x, 4), x.digest());
+        Check.same("stoked", Bakery.hashOf(x, 4), x.digest());
         x.addDough(1, 0, 2);
         x.addDough(0, 0, 4);
         x.addDough(0, 0, 1);
-        Check.same("doughs", hashOf(x, 4), x.digest());
+        Check.same("doughs", Bakery.hashOf(x, 4), x.digest());
         x.pass(2);
-        Check.same("ticks", hashOf(x, 4), x.digest());
+        Check.same("ticks", Bakery.hashOf(x, 4), x.digest());
         Bakery.text(x, "pass 1;");
-        Check.same("text", hashOf(x, 4), x.digest());
+        Check.same("text", Bakery.hashOf(x, 4), x.digest());
         x.undo();
-        Check.same("undone", hashOf(x, 3), x.digest());
+        Check.same("undone", Bakery.hashOf(x, 3), x.digest());
         Check.same("asked twice", x.digest(), x.digest());
     }
 }
