@@ -40,16 +40,27 @@ final class Bakery {
         }
     }
 
-    /** Lets a new object, whose command text is empty, come to this tick, and empties the text again. */
+    /** A new object that has run these texts, each of which has saved one state; its text is empty then. */
+    static BakeTurns ofTexts(String... texts) {
+        BakeTurns x = new BakeTurns();
+        for (String text : texts) {
+            Check.same("\"" + text + "\"", text.split(";").length, run(x, text));
+        }
+        x.clearCommands();
+        return x;
+    }
+
+    /** Lets a new object come to this tick; its text is empty then. */
     static void toTick(BakeTurns x, int tick) {
         text(x, "pass 100;".repeat(16));
-        while (tick - x.whole(4) >= 1600) {
+        for (int i = 0; i < tick / 1600; i++) {
             x.runCommands();
         }
         x.clearCommands();
-        while (x.whole(4) < tick) {
-            x.pass(Math.min(100, tick - x.whole(4)));
+        for (int left = tick % 1600; left > 0; left -= 100) {
+            x.pass(Math.min(100, left));
         }
+        Check.same("ticks", tick, x.whole(4));
     }
 
     static void text(BakeTurns x, String text) {

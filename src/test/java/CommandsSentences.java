@@ -208,7 +208,7 @@ final class CommandsSentences {
     /** Every number of the state differs from a new object's, and one run changes all of them but the kinds' own. */
     private static void everyValueComesBack() {
         BakeTurns x = Bakery.with(300, new int[] {250, 301, 5, 0, 40}, new int[] {300, 400, 20, 0, 1},
-            new int[] {250, 340, 20, 0, 40}, new int[] {200, 300, 3, 0, 40});
+            new int[] {250, 340, 20, 0, 40}, new int[] {200, 300, 3, 0, 6});
         x.addDough(0, 0, 2);
         x.addDough(1, 2, 3);
         x.addDough(1, 1, 4);
@@ -222,7 +222,10 @@ final class CommandsSentences {
         long before = Bakery.hashOf(x, 0);
         Bakery.text(x, "house;kind 50 400 1 0 40;swap 3 4;bring 1 9;dough 2 4 4;pass 100;stoke 2 9;settle;");
         Check.same("run", 8, x.runCommands());
-        x.clearDoughs();
+        Check.isTrue("one more is spoiled", x.whole(13) > 1);
+        Check.same("none is left", 0, x.clearDoughs());
+        x.addDough(1, 3, 4);
+        x.undo();
         x.undo();
         x.undo();
         x.clearCommands();

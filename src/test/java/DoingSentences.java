@@ -290,10 +290,31 @@ final class DoingSentences {
         x.addDough(0, 0, 4);
         Bakery.lineIs("at the end", x, 1, 0, 3, 4);
         Check.same("doughs", 5, x.whole(2));
+        BakeTurns y = ofABurntAndOneInTheOven();
+        y.pass(60);
+        y.clearDoughs();
+        y.addDough(1, 0, 1);
+        Bakery.doughIs("nothing of the burnt one that had its number", y, 0, 1, 0, 1, 0, 0, 0, -1, 0, 0, 0);
+        BakeTurns z = Bakery.ofTexts("kind 50 60 1 0 1;house;dough 0 0 4;pass 2;");
+        z.clearDoughs();
+        z.addDough(0, 0, 1);
+        Bakery.doughIs("nothing of the spoiled one that had its number", z, 0, 0, 0, 1, 0, 0, 0, -1, 0, 0, 0);
+    }
+
+    /** Dough 0 is done with two burnt loaves, dough 1 has been in the oven for five ticks. */
+    private static BakeTurns ofABurntAndOneInTheOven() {
+        BakeTurns x = Bakery.with(300, new int[] {250, 301, 5, 0, 40}, new int[] {50, 400, 20, 0, 40});
+        x.addDough(0, 0, 2);
+        x.addDough(1, 1, 1);
+        x.pass(1);
+        x.stoke(0, 2);
+        x.pass(4);
+        Check.same("burnt", 2, x.dough(0, 9));
+        return x;
     }
 
     private static void addDoughIsUndoable() {
-        BakeTurns x = Bakery.plain();
+        BakeTurns x = Bakery.ofTexts("kind 200 300 3 0 40;house;house;");
         Bakery.undoable("addDough", x, () -> x.addDough(0, 0, 1));
         x.addDough(0, 0, 1);
         Bakery.undoable("another", x, () -> x.addDough(1, 0, 4));
@@ -427,12 +448,18 @@ final class DoingSentences {
         }
         Check.same("a new one", 3, x.addDough(0, 0, 1));
         Bakery.doughIs("as new", x, 3, 0, 0, 1, 0, 0, 0, -1, 2, 0, 0);
+        BakeTurns y = ofABurntAndOneInTheOven();
+        y.clearDoughs();
+        Bakery.doughIs("with its own values alone", y, 0, 1, 1, 1, 2, 1, 1, 1, -1, 4, 0);
+        Bakery.placeIs("and its own loaf", y, 2, y.whole(3), 0, 4, 0);
     }
 
     private static void clearDoughsIsUndoable() {
         BakeTurns x = ofAllStates();
         Bakery.undoable("clearDoughs", x, x::clearDoughs);
         Bakery.doughsAre("all again", x, 4, 2, 0, 3, 1, 2, 0);
+        BakeTurns z = Bakery.ofTexts("kind 50 60 1 0 1;house;dough 0 0 1;pass 2;");
+        Bakery.undoable("clearDoughs", z, z::clearDoughs);
         BakeTurns y = new BakeTurns();
         Bakery.undoable("nothing to clear away", y, y::clearDoughs);
     }
@@ -472,7 +499,7 @@ final class DoingSentences {
     }
 
     private static void swapIsUndoable() {
-        BakeTurns x = waiting(3);
+        BakeTurns x = Bakery.ofTexts("kind 200 300 3 0 40;house;dough 0 0 1;dough 0 0 1;dough 0 0 1;");
         Bakery.undoable("swap", x, () -> x.swap(0, 2));
         Bakery.lineIs("as before", x, 0, 1, 2);
     }
@@ -756,10 +783,11 @@ final class DoingSentences {
     }
 
     private static void settleIsUndoable() {
-        BakeTurns x = usedByTheSecond();
+        BakeTurns x = Bakery.ofTexts("kind 200 300 3 0 40;house;house;stoke 0 10;dough 1 0 2;pass 9;");
         Bakery.undoable("settle", x, x::settle);
-        Check.same("unsettled", 14, x.whole(7));
-        BakeTurns y = Bakery.heated(300);
+        Check.same("unsettled", 10, x.whole(7));
+        Check.same("use of all", 6, x.whole(8));
+        BakeTurns y = Bakery.ofTexts("house;stoke 0 10;pass 9;");
         Bakery.undoable("without use", y, y::settle);
     }
 
@@ -802,9 +830,7 @@ final class DoingSentences {
     }
 
     private static void passIsUndoable() {
-        BakeTurns x = Bakery.heated(300);
-        x.addDough(0, 0, 4);
-        x.addDough(0, 0, 4);
+        BakeTurns x = Bakery.ofTexts("kind 200 300 3 0 40;house;stoke 0 12;dough 0 0 4;dough 0 0 4;");
         Bakery.undoable("pass", x, () -> x.pass(1));
         Bakery.undoable("pass", x, () -> x.pass(100));
         Check.same("no tick passed", 0, x.whole(4));

@@ -1,3 +1,6 @@
+import java.util.function.Consumer;
+import java.util.function.Supplier;
+
 /** "TEXTS OF COMMANDS", "UNDO" and "EXCEPTIONS". */
 final class TextsSentences {
     private TextsSentences() {
@@ -203,6 +206,8 @@ final class TextsSentences {
         Check.same("many, in front of each", 99, ranAll("house;bring   0     99;").house(0, 0));
         fault(4, "pass7;");
         fault(4, "pass\t7;");
+        fault(5, "pass \t7;");
+        fault(6, "pass  \n7;");
         fault(4, "pass\n7;");
         fault(4, "pass,7;");
         fault(4, "pass!7;");
@@ -244,66 +249,97 @@ final class TextsSentences {
 
     // ---- words
 
-    private static void wordKind() {
-        BakeTurns x = ranAll("kind 101 202 3 4 5;");
-        int[] due = {101, 202, 3, 4, 5};
-        for (int i = 0; i < 5; i++) {
-            Check.same("kind(0, " + i + ")", due[i], x.kind(0, i));
+    /** Doughs in the oven, waiting and done; use, logs and ticks are not 0. */
+    private static BakeTurns busy() {
+        BakeTurns x = Bakery.with(300, new int[] {200, 300, 3, 0, 40}, new int[] {50, 60, 1, 0, 40});
+        Bakery.doughs(x, 3, 0, 0, 2);
+        Bakery.doughs(x, 3, 1, 1, 1);
+        x.pass(3);
+        x.stoke(1, 2);
+        return x;
+    }
+
+    /** A text of this one command does all that the call does, and no more. */
+    private static void doesLikeTheCall(String command, Consumer<BakeTurns> call) {
+        BakeTurns x = busy();
+        BakeTurns y = busy();
+        Check.same("\"" + command + "\"", 1, Bakery.run(x, command));
+        call.accept(y);
+        Check.isTrue("\"" + command + "\" does something", Bakery.hashOf(y, 0) != Bakery.hashOf(busy(), 0));
+        x.clearCommands();
+        Check.same("\"" + command + "\" does as the call", Bakery.hashOf(y, 0), Bakery.hashOf(x, 0));
+    }
+
+    /** The word is a word only with each of its letters. */
+    private static void wordIs(String word) {
+        for (int i = 0; i < word.length(); i++) {
+            fault(0, word.substring(0, i) + (word.charAt(i) == 'x' ? 'y' : 'x') + word.substring(i + 1));
+            fault(0, word.substring(0, i) + (char) (word.charAt(i) + 1) + word.substring(i + 1) + ";");
+            fault(0, word.substring(0, i) + word.substring(i + 1) + ";");
+            fault(0, word.substring(0, i) + word.charAt(i) + word.substring(i) + ";");
         }
+        fault(word.length(), word);
+    }
+
+    private static void wordKind() {
+        doesLikeTheCall("kind 101 202 3 4 5;", x -> x.addKind(101, 202, 3, 4, 5));
+        wordIs("kind");
         fault(16, "kind 101 202 3 4;");
         fault(19, "kind 101 202 3 4 5 6;");
         fault(4, "kind;");
     }
 
     private static void wordHouse() {
-        Check.same("households", 2, ranAll("house;house;").whole(1));
+        doesLikeTheCall("house;", BakeTurns::addHouse);
+        wordIs("house");
         fault(6, "house 0;");
     }
 
     private static void wordDough() {
-        BakeTurns x = ranAll("house;house;kind 50 60 1 0 1;kind 50 60 1 0 1;kind 50 60 1 0 1;dough 1 2 3;");
-        Bakery.doughIs("added", x, 0, 1, 2, 3, 0, 0, 0, -1, 0, 0, 0);
+        doesLikeTheCall("dough 1 0 3;", x -> x.addDough(1, 0, 3));
+        doesLikeTheCall("dough 0 1 2;", x -> x.addDough(0, 1, 2));
+        wordIs("dough");
         fault(9, "dough 1 2;");
         fault(12, "dough 1 2 3 4;");
         fault(5, "dough;");
     }
 
     private static void wordBring() {
-        BakeTurns x = ranAll("house;house;bring 1 12;");
-        Bakery.houseIs("has brought", x, 1, 12, 0, 0, 12);
+        doesLikeTheCall("bring 1 12;", x -> x.bring(1, 12));
+        wordIs("bring");
         fault(7, "bring 1;");
         fault(10, "bring 1 2 3;");
         fault(5, "bring;");
     }
 
     private static void wordStoke() {
-        BakeTurns x = ranAll("house;house;stoke 1 12;");
-        Bakery.houseIs("has stoked", x, 1, -12, 0, 12, 0);
-        Check.same("heat", 300, x.whole(3));
+        doesLikeTheCall("stoke 1 2;", x -> x.stoke(1, 2));
+        wordIs("stoke");
         fault(7, "stoke 1;");
         fault(10, "stoke 1 2 3;");
         fault(5, "stoke;");
     }
 
     private static void wordPass() {
-        Check.same("ticks", 42, ranAll("pass 42;").whole(4));
+        doesLikeTheCall("pass 42;", x -> x.pass(42));
+        doesLikeTheCall("pass 3;", x -> x.pass(3));
+        wordIs("pass");
         fault(4, "pass;");
         fault(8, "pass 42 1;");
     }
 
     private static void wordSwap() {
-        BakeTurns x = ranAll("house;kind 50 60 1 0 1;dough 0 0 1;dough 0 0 1;dough 0 0 1;swap 0 2;");
-        Bakery.lineIs("swapped", x, 2, 1, 0);
+        doesLikeTheCall("swap 3 5;", x -> x.swap(3, 5));
+        doesLikeTheCall("swap 4 3;", x -> x.swap(4, 3));
+        wordIs("swap");
         fault(6, "swap 0;");
         fault(9, "swap 0 1 2;");
         fault(4, "swap;");
     }
 
     private static void wordSettle() {
-        BakeTurns x = ranAll("house;house;kind 50 400 1 0 1;stoke 0 4;dough 1 0 1;pass 1;settle;");
-        Bakery.houseIs("has paid", x, 0, 0, 0, 0, 0);
-        Bakery.houseIs("has used", x, 1, -4, 0, 0, 0);
-        Check.same("unsettled", 0, x.whole(7));
+        doesLikeTheCall("settle;", BakeTurns::settle);
+        wordIs("settle");
         fault(7, "settle 0;");
     }
 
@@ -324,6 +360,9 @@ final class TextsSentences {
         fault(9, "pass 123;?");
         fault(6, "pass 1?;house?;");
         fault(4, "pass;house 1;x");
+        fault(5, "pass house;x");
+        fault(7, "bring 1house;x");
+        fault(7, "kind 12;x");
         fault(149, "house;".repeat(24) + "house?");
         fault(20, "house;pass 5;house; ;");
     }
@@ -595,47 +634,69 @@ final class TextsSentences {
     // ---- exceptions
 
     private static void whatThrowsChangesNothing() {
-        BakeTurns x = Bakery.heated(300);
-        Bakery.doughs(x, 3, 0, 0, 2);
-        x.pass(1);
-        Bakery.text(x, "house;");
-        Check.badArgument("addKind", x, () -> x.addKind(200, 199, 1, 0, 1));
-        Check.outOfBounds("addDough", x, () -> x.addDough(0, 1, 1));
-        Check.badArgument("addDough", x, () -> x.addDough(0, 0, 5));
-        Check.outOfBounds("swap", x, () -> x.swap(1, 3));
-        Check.badArgument("swap", x, () -> x.swap(1, 1));
-        Check.badState("swap", x, () -> x.swap(1, 0));
-        Check.outOfBounds("bring", x, () -> x.bring(2, 1));
-        Check.badArgument("bring", x, () -> x.bring(0, 100));
-        Check.outOfBounds("stoke", x, () -> x.stoke(2, 1));
-        Check.badArgument("stoke", x, () -> x.stoke(0, 17));
-        Check.badState("stoke", x, () -> x.stoke(0, 5));
-        Check.badArgument("pass", x, () -> x.pass(101));
-        Check.badArgument("type", x, () -> x.type(128));
-        Check.same("the text is still the same", 1, x.runCommands());
-        Check.same("the stack too", 3, x.undo());
-        Check.same("before the tick", 2, x.undo());
-        Check.same("before the tick", 0, x.whole(4));
+        Supplier<BakeTurns> busy = () -> Bakery.ofTexts(
+            "kind 200 300 3 0 40;house;house;bring 0 99;stoke 0 12;dough 0 0 2;dough 0 0 2;dough 0 0 2;pass 1;");
+        changesNothing("addKind", IllegalArgumentException.class, busy, x -> x.addKind(200, 199, 1, 0, 1));
+        changesNothing("addDough", IndexOutOfBoundsException.class, busy, x -> x.addDough(0, 1, 1));
+        changesNothing("addDough", IllegalArgumentException.class, busy, x -> x.addDough(0, 0, 5));
+        changesNothing("swap", IndexOutOfBoundsException.class, busy, x -> x.swap(1, 3));
+        changesNothing("swap", IllegalArgumentException.class, busy, x -> x.swap(1, 1));
+        changesNothing("swap", IllegalStateException.class, busy, x -> x.swap(1, 0));
+        changesNothing("bring", IndexOutOfBoundsException.class, busy, x -> x.bring(2, 1));
+        changesNothing("bring", IllegalArgumentException.class, busy, x -> x.bring(0, 100));
+        changesNothing("stoke", IndexOutOfBoundsException.class, busy, x -> x.stoke(2, 1));
+        changesNothing("stoke", IllegalArgumentException.class, busy, x -> x.stoke(0, 17));
+        changesNothing("stoke", IllegalStateException.class, busy, x -> x.stoke(0, 5));
+        changesNothing("pass", IllegalArgumentException.class, busy, x -> x.pass(101));
+        changesNothing("type", IllegalArgumentException.class, busy, x -> x.type(128));
+        changesNothing("type", IllegalStateException.class, busy, x -> x.type(';'));
+        changesNothing("line", IllegalArgumentException.class, busy, x -> x.line(-1));
+        changesNothing("heatIn", IllegalArgumentException.class, busy, x -> x.heatIn(101));
+        changesNothing("spoiledIn", IllegalArgumentException.class, busy, x -> x.spoiledIn(101));
+        changesNothing("loadedIn", IndexOutOfBoundsException.class, busy, x -> x.loadedIn(3));
         fullStatesRefuse();
     }
 
     private static void fullStatesRefuse() {
-        BakeTurns x = Bakery.plain();
-        Check.same("kinds and households", 10, Bakery.run(x, "kind 50 50 1 0 1;".repeat(4) + "house;".repeat(6)));
-        Bakery.doughs(x, 16, 0, 0, 1);
-        Check.same("balance 999", 10, Bakery.run(x, "bring 0 90;".repeat(10)));
-        Bakery.text(x, "settle;" + " ".repeat(143));
-        Check.badState("addKind", x, () -> x.addKind(50, 50, 1, 0, 1));
-        Check.badState("addHouse", x, x::addHouse);
-        Check.badState("addDough", x, () -> x.addDough(0, 0, 1));
-        Check.badState("bring", x, () -> x.bring(0, 1));
-        Check.badState("type", x, () -> x.type('x'));
-        Check.same("the text is still the same", 1, x.runCommands());
-        BakeTurns y = new BakeTurns();
-        Bakery.toTick(y, 99950);
-        Check.badState("pass", y, () -> y.pass(51));
-        Check.same("not one tick of them", 99950, y.whole(4));
-        Check.badState("undo", new BakeTurns(), new BakeTurns()::undo);
+        changesNothing("addKind", IllegalStateException.class, () -> Bakery.ofTexts("kind 50 50 1 0 1;".repeat(5)),
+            x -> x.addKind(50, 50, 1, 0, 1));
+        changesNothing("addHouse", IllegalStateException.class, () -> Bakery.ofTexts("house;".repeat(8)), BakeTurns::addHouse);
+        changesNothing("addDough", IllegalStateException.class, () -> Bakery.ofTexts("kind 50 50 1 0 1;house;",
+            "dough 0 0 1;".repeat(12), "dough 0 0 1;".repeat(4)), x -> x.addDough(0, 0, 1));
+        changesNothing("bring", IllegalStateException.class,
+            () -> Bakery.ofTexts("house;" + "bring 0 99;".repeat(10) + "bring 0 9;"), x -> x.bring(0, 1));
+        changesNothing("pass", IllegalStateException.class, TextsSentences::nearTheLastTick, x -> x.pass(51));
+        BakeTurns none = new BakeTurns();
+        Check.badState("undo", none, none::undo);
+    }
+
+    private static BakeTurns nearTheLastTick() {
+        BakeTurns x = new BakeTurns();
+        Bakery.toTick(x, 99950);
+        return x;
+    }
+
+    /** With a full text, and with some or with all room on the stack taken: nothing that can be asked or undone differs. */
+    private static void changesNothing(String what, Class<? extends RuntimeException> due, Supplier<BakeTurns> made,
+            Consumer<BakeTurns> call) {
+        for (int settlings = 0; settlings <= 3; settlings += 3) {
+            BakeTurns x = made.get();
+            BakeTurns y = made.get();
+            for (BakeTurns each : new BakeTurns[] {x, y}) {
+                for (int i = 0; i < settlings; i++) {
+                    each.settle();
+                }
+                Bakery.text(each, "pass 1;house;" + " ".repeat(137));
+            }
+            Check.refused(what, x, due, () -> call.accept(x));
+            Check.same(what + ": as without the call", y.digest(), x.digest());
+            for (int left = Bakery.states(y); left > 0; left--) {
+                Check.same(what + ": undo", y.undo(), x.undo());
+                Check.same(what + ": as undone without the call", y.digest(), x.digest());
+            }
+            Check.same(what + ": the text runs as without the call", y.runCommands(), x.runCommands());
+            Check.same(what + ": as without the call", y.digest(), x.digest());
+        }
     }
 
     private static void theFirstListedIsThrown() {

@@ -437,17 +437,28 @@ final class TickSentences {
         Check.same("216", 2, x.place(0, 2));
         Check.same("216, new", 1, x.place(2, 2));
         Check.same("196, new, and so many are needed", 1, x.place(4, 2));
-        BakeTurns y = Bakery.with(75, new int[] {50, 400, 20, 0, 40});
+        BakeTurns y = Bakery.with(75, STAYS);
         y.addDough(0, 0, 4);
-        y.addDough(0, 0, 4);
-        y.pass(1);
-        Check.same("67: 47 is too cold for a second dough in band 1", 67, y.whole(3));
-        y.pass(1);
-        Check.same("too cold", 4, y.dough(1, 5));
-        y.pass(9);
+        y.pass(11);
         for (int p = 0; p < 4; p++) {
-            Check.same("75, 67, 65 and so on to 51", 10, y.place(p, 2));
+            Check.same("75, 67, 65 and so on to 51, 49", 10, y.place(p, 2));
         }
+        BakeTurns z = Bakery.with(225, STAYS, new int[] {190, 200, 20, 0, 40});
+        z.addDough(0, 0, 4);
+        z.addDough(0, 1, 4);
+        z.pass(2);
+        Check.same("217: 197 in band 1", 1, z.place(4, 2));
+        z.pass(1);
+        Check.same("209: 189 in band 1, by the heat of the place, not of the oven", 1, z.place(4, 2));
+        z.stoke(0, 2);
+        z.pass(1);
+        Check.same("257: 237 in band 1, which scorches, and bakes", 2, z.place(4, 2));
+        BakeTurns w = Bakery.with(300, new int[] {200, 300, 3, 0, 40});
+        w.addDough(0, 0, 1);
+        w.pass(3);
+        w.addDough(0, 0, 1);
+        w.pass(1);
+        Check.same("a new one begins anew where another stood", 1, w.place(0, 2));
     }
 
     private static void scorchedAboveTheGreatestHeat() {

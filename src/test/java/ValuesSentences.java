@@ -274,6 +274,13 @@ final class ValuesSentences {
         x.settle();
         x.clearDoughs();
         Check.same("in all", 6, x.house(0, 5));
+        BakeTurns y = Bakery.with(300, new int[] {200, 301, 5, 0, 40});
+        y.addDough(1, 0, 3);
+        y.pass(1);
+        y.stoke(0, 4);
+        y.pass(4);
+        Check.same("burnt ones too", 3, y.house(1, 6));
+        Check.same("burnt ones too", 3, y.house(1, 5));
     }
 
     private static void loavesBurnt() {
